@@ -44,6 +44,38 @@ public final class PledgedLoansTest {
         }
     }
 
+    /** The call saves the state from before it, and undo() brings just that one back. */
+    private static void undoes(PledgedLoans x, String what, Callable<Object> call) {
+        String before = looks(x);
+        int saved = x.count(11);
+        try {
+            call.call();
+        } catch (Exception e) {
+            due(what, e.getClass(), null);
+        }
+        due(what + " saves one state", x.count(11), Math.min(6, saved + 1));
+        x.undo();
+        due(what + " is undone", looks(x), before);
+    }
+
+    /** All that is to be seen, but for the saved states. */
+    private static String looks(PledgedLoans x) {
+        StringBuilder all = new StringBuilder();
+        for (int what = 0; what < 11; what++) {
+            all.append(x.count(what)).append(' ');
+        }
+        all.append(x.setting(0)).append(' ').append(x.setting(1));
+        for (int member = 0; member < 6; member++) {
+            for (int what = 0; what < 10; what++) {
+                all.append(' ').append(x.memberOf(member, what));
+            }
+            for (int borrower = 0; borrower < 6; borrower++) {
+                all.append(' ').append(x.pledged(member, borrower));
+            }
+        }
+        return all.toString();
+    }
+
     private interface OfMember {
         Object of(int number);
     }
@@ -249,6 +281,10 @@ public final class PledgedLoansTest {
         due("fee is rounded down to 1", x.count(1), 19);
         due("undoable", x.undo(), 5);
         due("no loan", x.memberOf(3, 6), 0);
+        x.week();
+        x.repay(1, 900);
+        x.borrow(1, 90, 9);
+        due("a new loan has no misses", x.memberOf(1, 9), 0);
         PledgedLoans y = new PledgedLoans();
         y.payIn(4, 9999);
         y.borrow(4, 9999, 52);
@@ -410,10 +446,12 @@ public final class PledgedLoansTest {
         due("more than the setting tells", x.week(), 1);
         PledgedLoans y = lent();
         y.repay(1, 850);
-        due("the rest is less than the part, and missed", y.week() + y.memberOf(1, 9), 0);
         y.week();
-        due("missed", y.memberOf(1, 9), 1);
-        y.repay(1, 50);
+        due("kept", y.memberOf(1, 9), 0);
+        y.repay(1, 49);
+        y.week();
+        due("missed, though the rest is less than the part", y.memberOf(1, 9), 1);
+        y.repay(1, 1);
         y.week();
         due("gone", y.memberOf(1, 9), NONE);
     }
@@ -472,8 +510,27 @@ public final class PledgedLoansTest {
         due("just the share days", z.pass(1), 1250);
         due("share days", z.memberOf(4, 5), 100000000);
         refuses(z, "above the share days", STATE, () -> z.pass(1));
+        for (int i = 0; i < 8; i++) {
+            z.payOut(4, 9999);
+        }
+        z.payOut(4, 7);
+        refuses(z, "above the share days by one", STATE, () -> z.pass(1));
+        z.payOut(4, 1);
+        due("without shares", z.pass(1), 1251);
+        PledgedLoans first = new PledgedLoans();
+        PledgedLoans last = new PledgedLoans();
+        for (int i = 0; i < 9; i++) {
+            first.payIn(0, 9999);
+            last.payIn(5, 9999);
+        }
+        for (int i = 0; i < 11; i++) {
+            first.pass(99);
+            last.pass(99);
+        }
+        refuses(first, "of the first member", STATE, () -> first.pass(99));
+        refuses(last, "of the last member", STATE, () -> last.pass(99));
         z.dividend();
-        due("share days begin anew", z.pass(1), 1251);
+        due("share days begin anew", z.pass(1), 1252);
     }
 
     private static void dividend() {
@@ -504,6 +561,14 @@ public final class PledgedLoansTest {
         due("without a surplus", y.dividend(), 0);
         due("not refused", y.count(9), 0);
         due("share days", y.memberOf(0, 5), 0);
+        PledgedLoans one = new PledgedLoans();
+        one.payIn(0, 1000);
+        one.borrow(0, 1000, 1);
+        one.repay(0, 1000);
+        one.payOut(0, 999);
+        one.pass(1);
+        due("one share day", one.ifDivided(0), 20);
+        due("one share day", one.dividend(), 20);
         PledgedLoans z = new PledgedLoans();
         z.set(0, 100);
         for (int i = 0; i < 9; i++) {
@@ -729,6 +794,7 @@ public final class PledgedLoansTest {
     }
 
     private static void undo() {
+        undoesEach();
         PledgedLoans x = new PledgedLoans();
         for (int i = 0; i < 9; i++) {
             x.payIn(i % 6, 10 + i);
@@ -760,6 +826,39 @@ public final class PledgedLoansTest {
         due("shares", y.memberOf(0, 0), 1);
     }
 
+    private static void undoesEach() {
+        PledgedLoans x = lent();
+        x.set(1, 1);
+        x.pass(9);
+        x.keep(0);
+        x.payIn(5, 17);
+        x.pass(2);
+        undoes(x, "payIn", () -> x.payIn(0, 5));
+        undoes(x, "payOut", () -> x.payOut(0, 5));
+        undoes(x, "pledge", () -> x.pledge(0, 4, 5));
+        undoes(x, "unpledge", () -> x.unpledge(0, 1, 5));
+        undoes(x, "borrow", () -> x.borrow(0, 100, 2));
+        undoes(x, "repay", () -> x.repay(1, 100));
+        undoes(x, "repay all", () -> x.repay(1, 900));
+        undoes(x, "week", () -> x.week());
+        undoes(x, "pass", () -> x.pass(3));
+        undoes(x, "dividend", () -> x.dividend());
+        undoes(x, "set", () -> x.set(0, 3));
+        undoes(x, "goBack", () -> x.goBack(0));
+        type(x, "w;+0:3;r5:2;w");
+        undoes(x, "run", () -> x.run());
+        undoes(x, "payOut, refused", () -> x.payOut(4, 5));
+        undoes(x, "pledge, refused", () -> x.pledge(4, 1, 5));
+        undoes(x, "unpledge, refused", () -> x.unpledge(4, 1, 5));
+        undoes(x, "borrow, refused", () -> x.borrow(4, 100, 2));
+        undoes(x, "repay, refused", () -> x.repay(4, 100));
+        x.dividend();
+        x.pass(1);
+        x.dividend();
+        undoes(x, "dividend, refused", () -> x.dividend());
+        undoes(x, "goBack, from other numbers", () -> x.goBack(0));
+    }
+
     /** What the first calls of undo() pay in together. */
     private static int sumTo(int calls) {
         int sum = 0;
@@ -784,6 +883,7 @@ public final class PledgedLoansTest {
         x.repay(1, 400);
         due("the rest is held by pledges of others", x.memberOf(1, 4), 460);
         due("not undoable", x.count(11), 6);
+        due("nothing is added", x.memberOf(0, 0), 1000);
         refusesMembers(x, "memberOf", m -> x.memberOf(m, 0));
         refusesMembers(x, "memberOf, wrong what too", m -> x.memberOf(m, 10));
         for (int what : new int[] {-1, 10, Integer.MAX_VALUE, Integer.MIN_VALUE}) {
@@ -1000,6 +1100,14 @@ public final class PledgedLoansTest {
         y.pledge(2, 3, 349);
         y.borrow(3, 150, 1);
         due("500 against 100", y.riskiest(), 1);
+        PledgedLoans z = new PledgedLoans();
+        z.payIn(0, 10);
+        z.payIn(1, 10);
+        z.pledge(1, 0, 10);
+        z.borrow(0, 10, 1);
+        due("all held", z.riskiest(), NONE);
+        z.pledge(0, 2, 1);
+        due("one at stake", z.riskiest(), 0);
     }
 
     private static void lentShare() {
@@ -1014,7 +1122,11 @@ public final class PledgedLoansTest {
         x.borrow(1, 47, 1);
         due("of all", x.lentShare(), 147.0 / 347.0);
         PledgedLoans y = new PledgedLoans();
-        y.payIn(0, 10);
+        y.payIn(0, 1);
+        y.borrow(0, 1, 1);
+        due("all of one share", y.lentShare(), 1.0);
+        y.payIn(0, 9);
+        y.repay(0, 1);
         y.borrow(0, 10, 1);
         due("all", y.lentShare(), 1.0);
         y.set(1, 1);
